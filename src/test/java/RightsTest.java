@@ -250,6 +250,13 @@ public final class RightsTest {
         for (int inode : new int[] {-1, 2, 64}) {
             DUE.is("inode " + inode, x.list(inode, false, 0), BAD);
         }
+        x.create(1, 0, 1, 0600);
+        x.acl(1, 2, false, 0, 0, 3);
+        x.acl(1, 2, false, 1, 15, 4);
+        int[] ends = {2, 7, 0, 6, 0, 0, 0, 3, 1, 15, 4, NONE};
+        for (int what = 0; what < ends.length; what++) {
+            DUE.is("the least and the highest id: " + what, x.list(2, false, what), ends[what]);
+        }
         DUE.is("what below 0", x.list(1, false, -1), BAD);
         DUE.is("what below 0", x.list(1, true, Integer.MIN_VALUE), BAD);
     }
@@ -328,6 +335,11 @@ public final class RightsTest {
         DUE.is("the group bits have it not", x.may(5, 1, 2), 0);
         x.member(5, 3, true);
         DUE.is("the group bits, or an entry", x.may(5, 1, 2), 1);
+        x.acl(1, 1, false, 1, 0, 3);
+        x.first(7, 0);
+        DUE.is("an entry of group 0", x.may(7, 1, 3), 1);
+        DUE.is("an entry of group 0 that has it not", x.may(7, 1, 4), 0);
+        x.acl(1, 1, false, 1, 0, NONE);
         x.acl(1, 1, false, 1, 1, 1);
         DUE.is("an entry of the inode's own group", x.may(5, 1, 1), 1);
         DUE.is("the group bits beside it", x.may(5, 1, 4), 1);
