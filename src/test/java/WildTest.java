@@ -41,7 +41,7 @@ public final class WildTest {
     }
 
     private void run(int seed) throws IllegalAccessException {
-        GuardedInodes x = new GuardedInodes();
+        GuardedInodes x = started();
         for (int call = 0; call < CALLS && !DUE.failed(); call++) {
             Method method = methods.get(random.nextInt(methods.size()));
             Object[] arguments = arguments(method.getParameterTypes());
@@ -53,6 +53,17 @@ public final class WildTest {
             }
             DUE.holds("run " + seed + " call " + call + " " + method.getName() + " throws " + thrown, thrown.equals("nothing"));
         }
+    }
+
+    /** Something lies there already, since wild calls alone would seldom come to files with data. */
+    private static GuardedInodes started() {
+        GuardedInodes x = new GuardedInodes();
+        x.create(1, 0, 1, 511);
+        x.create(2, 0, 2, 511);
+        x.create(3, 2, 1, 511);
+        x.write(1, 1, 700, 8, 1);
+        x.write(3, 3, 60, 8, 1);
+        return x;
     }
 
     private Object[] arguments(Class<?>[] types) {
